@@ -418,17 +418,11 @@ public final class TwinTrees {
 
         /** Where the key is, or where it would have to stand. */
         int placeOf(int key) {
-            int low = 0;
-            int high = length;
-            while (low < high) {
-                int middle = (low + high) / 2;
-                if (rows[middle].key < key) {
-                    low = middle + 1;
-                } else {
-                    high = middle;
-                }
+            int place = 0;
+            while (place < length && rows[place].key < key) {
+                place++;
             }
-            return low;
+            return place;
         }
 
         boolean hasKeyAt(int place, int key) {
@@ -512,9 +506,12 @@ public final class TwinTrees {
             return true;
         }
 
-        /** Of like nodes there is one, so those below are like if they are the same. */
-        boolean isLikeBranch(int otherHeight, Node[] source, int from, int to) {
-            if (height != otherHeight || below.length != to - from) {
+        /**
+         * Of like nodes there is one, so those below are like if they are the same; and then
+         * the height is the same too.
+         */
+        boolean isLikeBranch(Node[] source, int from, int to) {
+            if (below.length != to - from) {
                 return false;
             }
             for (int i = from; i < to; i++) {
@@ -556,7 +553,7 @@ public final class TwinTrees {
                 print = print * 31 + source[i].print;
             }
             for (Node node = buckets[bucketOf(print)]; node != null; node = node.next) {
-                if (node.print == print && node.isLikeBranch(height, source, from, to)) {
+                if (node.print == print && node.isLikeBranch(source, from, to)) {
                     return node;
                 }
             }
