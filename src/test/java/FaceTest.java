@@ -35,14 +35,14 @@ public final class FaceTest {
         checks.due("the class is public and final", TwinTrees.class.getModifiers(), face);
         Set<String> methods = new TreeSet<>();
         for (Method method : TwinTrees.class.getDeclaredMethods()) {
-            if (!Modifier.isPrivate(method.getModifiers())) {
+            if (!method.isSynthetic() && !Modifier.isPrivate(method.getModifiers())) {
                 methods.add(method.toString());
             }
         }
         checks.due("the methods are " + methods, methods.equals(METHODS) ? 1 : 0, 1);
         Set<String> fields = new TreeSet<>();
         for (Field field : TwinTrees.class.getDeclaredFields()) {
-            if (!Modifier.isPrivate(field.getModifiers())) {
+            if (!field.isSynthetic() && !Modifier.isPrivate(field.getModifiers())) {
                 fields.add(field.toString());
             }
         }
