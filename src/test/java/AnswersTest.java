@@ -500,26 +500,24 @@ public final class AnswersTest extends Scene {
     private void differenceTellsTheCells() {
         begin("2: 2^0 for the cell of column 0 if it is not the same, 2^1 for that of column 1, ..");
         x.make(0, 6);
-        x.put(0, 1, 0, 7, false);
-        x.put(0, 1, 3, 7, false);
-        x.copy(1, 0);
+        for (int column = 0; column < 6; column++) {
+            x.put(0, 1, column, 7, false);
+        }
         for (int column = 0; column < 6; column++) {
             x.copy(1, 0);
-            x.put(1, 1, column, 0, false);
+            x.put(1, 1, column, 8, false);
             x.compare(0, 1);
+            dueDifference(0, 1, 2, 1 << column);
+            x.put(1, 1, column, 8, true);
+            x.compare(1, 0);
             dueDifference(0, 1, 2, 1 << column);
         }
         x.copy(1, 0);
         for (int column = 0; column < 6; column++) {
-            x.put(1, 1, column, 0, false);
+            x.put(1, 1, column, column, column % 2 == 0);
             x.compare(0, 1);
             dueDifference(0, 1, 2, (2 << column) - 1);
         }
-        x.copy(1, 0);
-        x.put(1, 1, 0, 0, true);
-        x.put(1, 1, 3, 8, false);
-        x.compare(1, 0);
-        dueDifference(0, 1, 2, 1 + 8);
     }
 
     private void differenceTellsNoCellsOfOneAlone() {
@@ -595,6 +593,11 @@ public final class AnswersTest extends Scene {
         dueDifference(0, 1, 1, 0);
         dueDifference(1, 2, 2, 1);
         dueNoDifference(2);
+        x.make(1, 1);
+        x.sweep();
+        dueStore(1, 0);
+        dueDifference(0, 1, 1, 0);
+        dueDifference(1, 2, 2, 1);
     }
 
     private void sweepFindsNothing() {

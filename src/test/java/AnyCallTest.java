@@ -1,19 +1,22 @@
 import java.util.Random;
 
 /**
- * No call throws or hangs, whatever its arguments and however many came before: what calls after
- * the 512th answer is free, but answer they must.
+ * No call throws or hangs, whatever its arguments, and some way beyond the 512th neither: what
+ * calls answer there is free, but answer they must.
  */
 public final class AnyCallTest {
-    private static final int CALLS = 100_000;
+    private static final int RUNS = 300;
+    private static final int CALLS = 512;
+    private static final int CALLS_BEYOND = 1500;
     private static final int[] EDGES = {
         Integer.MIN_VALUE, Integer.MIN_VALUE + 1, -2, -1, 0, 1, 2, 3, 4, 5, 6, 7, 299, 300, 301, 599, 600,
         Integer.MAX_VALUE - 1, Integer.MAX_VALUE};
 
     public static void main(String[] args) {
         Checks checks = new Checks();
-        for (int seed = 0; seed < 4; seed++) {
-            checks.due("run " + seed, new AnyCallTest(seed).answered(seed % 2 == 0), CALLS);
+        for (int seed = 0; seed < RUNS; seed++) {
+            int calls = seed % 50 == 0 ? CALLS_BEYOND : CALLS;
+            checks.due("run " + seed, new AnyCallTest(seed).answered(calls, seed % 2 == 0), calls);
         }
         checks.end("AnyCallTest");
     }
@@ -25,8 +28,8 @@ public final class AnyCallTest {
         random = new Random(seed);
     }
 
-    private int answered(boolean sweeps) {
-        for (int call = 0; call < CALLS; call++) {
+    private int answered(int calls, boolean sweeps) {
+        for (int call = 0; call < calls; call++) {
             try {
                 anyCall(sweeps);
             } catch (RuntimeException thrown) {
@@ -34,7 +37,7 @@ public final class AnyCallTest {
                 return call;
             }
         }
-        return CALLS;
+        return calls;
     }
 
     private void anyCall(boolean sweeps) {

@@ -2,7 +2,7 @@
 final class Checks {
     private static final int TOLD_AT_MOST = 40;
     /** Far more than any test needs. */
-    private static final long MOST_MILLISECONDS = 300_000;
+    private static final long MOST_MILLISECONDS = 120_000;
 
     private int wrong = 0;
     private int made = 0;

@@ -55,6 +55,7 @@ public final class TermsTest extends Scene {
         unlikeByHeight();
         unlikeThoughOfOneAddress();
         unlikeThoughOfOnePrint();
+        unlikeThoughOfOnePrintByNull();
         likeEmptyNodesOfAnyColumns();
         likeNodesInTwoPlaces();
     }
@@ -432,6 +433,30 @@ public final class TermsTest extends Scene {
         due("one row of two columns", set(2, -3, 0), 1);
         due("one row of one column", set(3, -3, 0), 1);
         due("address", x.address(3), Model.mix(0, -3, 1, 0));
+        set(4, 2, 5);
+        set(4, 3, 100);
+        set(5, 2, 6);
+        due("other nodes below", set(5, 3, 69), 2);
+        dueCells(5, 2, 6);
+        dueCells(5, 3, 69);
+        due("differences", x.compare(4, 5), 2);
+    }
+
+    /** Which cells are NULL, and nothing else, is not the same; the prints are. */
+    private void unlikeThoughOfOnePrintByNull() {
+        begin("Two nodes are LIKE by rows, not by a short print of them: NULL and 0");
+        for (int table = 0; table <= 1; table++) {
+            x.make(table, 5);
+            for (int column = 0; column < 5; column++) {
+                x.put(table, 1, column, 0, table == 1 && column == 0);
+                x.put(table, 3, column, 0, table == 0);
+            }
+        }
+        dueCells(0, 1, 0, 0, 0, 0, 0);
+        dueCells(0, 3, NOTHING, NOTHING, NOTHING, NOTHING, NOTHING);
+        dueCells(1, 1, NOTHING, 0, 0, 0, 0);
+        dueCells(1, 3, 0, 0, 0, 0, 0);
+        due("differences", x.compare(0, 1), 2);
     }
 
     private void likeEmptyNodesOfAnyColumns() {
@@ -491,6 +516,11 @@ public final class TermsTest extends Scene {
         due("3: NULL 7 NULL", x.address(0), 8574117594427421446L);
         x.put(0, 1, 2, -2, false);
         due("and 1: NULL NULL -2", x.address(0), Model.mix(0, 1, 0, 0, 1, -2, 3, 0, 1, 7, 0));
+        x.make(1, 6);
+        for (int column = 0; column < 6; column++) {
+            x.put(1, 3, column, 10 + column, false);
+        }
+        due("3: 10 .. 15", x.address(1), Model.mix(0, 3, 1, 10, 1, 11, 1, 12, 1, 13, 1, 14, 1, 15));
     }
 
     private void addressOfNodesBelow() {
