@@ -129,9 +129,7 @@ public final class AnswersTest extends Scene {
 
     private void getRefusesTables() {
         begin("get: 2^40 + REFUSED if no such table");
-        for (int table = 0; table <= 5; table++) {
-            set(table, 1, 0);
-        }
+        leaveNoTableEmpty();
         for (int table : NO_TABLES) {
             due("get(" + table + ", 1, 0)", x.get(table, 1, 0), 1099511627775L);
         }
@@ -309,9 +307,7 @@ public final class AnswersTest extends Scene {
 
     private void rowIsNoneInNoTable() {
         begin("row: 2^40 if there is none, as there is no table");
-        for (int table = 0; table <= 5; table++) {
-            set(table, 1, 0);
-        }
+        leaveNoTableEmpty();
         for (int table : NO_TABLES) {
             due("row(" + table + ", 0)", x.row(table, 0), 1099511627776L);
         }
@@ -649,9 +645,7 @@ public final class AnswersTest extends Scene {
 
     private void sweepTakesTheEmptyNode() {
         begin("Nodes that no table has go: the empty one too");
-        for (int table = 0; table <= 5; table++) {
-            set(table, 1, 0);
-        }
+        leaveNoTableEmpty();
         due("sweep", x.sweep(), 1);
         dueStore(1, 2);
         due("written anew", x.remove(0, 1), 1);

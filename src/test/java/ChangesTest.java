@@ -132,9 +132,7 @@ public final class ChangesTest extends Scene {
 
     private void makeAnswersNodesWritten() {
         begin("make: how many nodes it writes");
-        for (int table = 0; table <= 5; table++) {
-            set(table, 1, 0);
-        }
+        leaveNoTableEmpty();
         due("sweep", x.sweep(), 1);
         dueStore(1, 2);
         due("the empty node", x.make(3, 2), 1);
@@ -167,9 +165,7 @@ public final class ChangesTest extends Scene {
     /** The empty node has size 0, so that no store is too full for it. */
     private void makeFindsRoomForTheEmptyNode() {
         begin("make: FULL: no room for them");
-        for (int table = 0; table <= 5; table++) {
-            set(table, 1, 0);
-        }
+        leaveNoTableEmpty();
         x.sweep();
         fillAllBut(0);
         int nodes = x.count(0);
@@ -532,9 +528,7 @@ public final class ChangesTest extends Scene {
 
     private void removeFindsRoomForTheEmptyNode() {
         begin("remove: FULL as for make: the empty node has size 0");
-        for (int table = 0; table <= 5; table++) {
-            set(table, 1, 0);
-        }
+        leaveNoTableEmpty();
         x.sweep();
         fillAllBut(0);
         due("the only row", x.remove(5, 1), 1);

@@ -65,6 +65,13 @@ abstract class Scene {
         }
     }
 
+    /** Then no table has the empty node. */
+    void leaveNoTableEmpty() {
+        for (int table = 0; table < 6; table++) {
+            set(table, 1, 0);
+        }
+    }
+
     void dueMeasures(int table, int rows, int columns, int height, int nodes) {
         int[] wants = {rows, columns, height, nodes};
         for (int what = 0; what < wants.length; what++) {
