@@ -37,7 +37,7 @@ public final class TwinTrees {
     private int lastStamp = 0;
 
     public TwinTrees() {
-        Node empty = store.leafOf(draft.rows, 0, 0);
+        Node empty = store.leafOf(new Row[0], 0, 0);
         store.keepPending();
         for (int table = 0; table < TABLES; table++) {
             widths[table] = 1;
